@@ -165,7 +165,7 @@ public final class UndoMemory {
     }
 
     public int redoNext() {
-        // All steps behind the latest active one are undone.
+        // All steps behind the latest active one are undone; NONE + 1 is the first step of all.
         int at = latestActive() + 1;
         if (at >= size) {
             return 0;
