@@ -57,6 +57,7 @@ public final class BoundaryObjectTest extends Boundary {
         due("no cell behind the last", x.set(8, 1), 0);
         due("set to 0", x.set(7, 0), 9);
         due("cell 7", x.cell(7), 0);
+        due("set to what it is", x.set(7, 0), 10);
     }
 
     private static void counters() {
@@ -70,6 +71,8 @@ public final class BoundaryObjectTest extends Boundary {
             due("counter " + k, x.counter(k), (1L << 32) + k);
         }
         due("counter 3", x.counter(3), (1L << 32) + 3 - (1L << 40));
+        due("add of 0", x.add(0, 0), 6);
+        due("counter 0", x.counter(0), 1L << 32);
         due("no counter before the first", x.add(-1, 1), 0);
         due("no counter behind the last", x.add(4, 1), 0);
     }

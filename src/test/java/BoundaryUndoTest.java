@@ -14,6 +14,8 @@ public final class BoundaryUndoTest extends Boundary {
         takenByUndoLast();
         takenByCallsThatTookNothing();
         dependsOnSteps();
+        dependsAtItsTurn();
+        dependsThroughOthers();
         dependsOnWhatIsNotInTheHistory();
         dependsOnWhatIsNotActive();
         dependsOnWhatIsNotBefore();
@@ -213,10 +215,42 @@ public final class BoundaryUndoTest extends Boundary {
         dueNothing("the last on the first", way, x -> x.dependsOn(200, 1), 1);
         dueNothing("the last on the one before", way, x -> x.dependsOn(200, 199), 1);
         dueNothing("the second on the first", way, x -> x.dependsOn(2, 1), 1);
-        dueNothing("what is passed over in between", way, x -> x.dependsOn(199, 2), 1);
         dueNothing("a set", Boundary::full, x -> x.dependsOn(14, 1), 0);
         dueNothing("a remove on its element", Boundary::full, x -> x.dependsOn(10, 4), 1);
         dueNothing("a remove on another element", Boundary::full, x -> x.dependsOn(10, 3), 0);
+    }
+
+    private static void dependsAtItsTurn() {
+        sentence("Promise 13: .. at its turn in the replay of the active steps before it: later ones and undone ones do not count");
+        Way way = x -> {
+            due("set", x.set(0, 1), 1);
+            due("node", x.node(0), 2);
+            due("node", x.node(0), 3);
+            due("unlink", x.unlink(2), 4);
+            due("link", x.link(2, 3), 5);
+            due("link", x.link(2, 0), 6);
+            due("link the other way", x.link(3, 2), 7);
+            due("undo", x.undo(4, false), 1);
+        };
+        dueNothing("a later ring", way, x -> x.dependsOn(5, 1), 0);
+        dueNothing("what it names", way, x -> x.dependsOn(5, 2), 1);
+        dueNothing("what opens the ring", way, x -> x.dependsOn(7, 6), 1);
+        dueNothing("what closes a ring that is open again", way, x -> x.dependsOn(7, 5), 0);
+    }
+
+    private static void dependsThroughOthers() {
+        sentence("Promise 13: (others that are impossible then are passed over)");
+        Way deep = x -> chain(x, 1, 200);
+        dueNothing("the last on the first", deep, x -> x.dependsOn(200, 1), 1);
+        dueNothing("the last on the second", deep, x -> x.dependsOn(200, 2), 1);
+        Way opened = x -> {
+            chain(x, 1, 2);
+            due("node", x.node(0), 3);
+            due("link", x.link(2, 3), 4);
+            due("link", x.link(1, 2), 5);
+        };
+        dueNothing("a link on a node that the link it needs names", opened, x -> x.dependsOn(5, 3), 1);
+        dueNothing("on that link", opened, x -> x.dependsOn(5, 4), 1);
     }
 
     private static void dependsOnWhatIsNotInTheHistory() {

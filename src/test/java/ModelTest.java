@@ -8,8 +8,10 @@ import java.util.Map;
  * document word by word: it keeps no memory, but replays all active steps for each question.
  */
 public final class ModelTest {
-    private static final int RUNS = 400;
-    private static final int CALLS = 512;
+    private static final int RUNS = 2400;
+    /** Calls after which an object is only asked, so that some are left for the questions. */
+    private static final int LONGEST = 440;
+    private static final int MOST_CALLS = 512;
     private static final int NONE = -1;
 
     /** Mixes of calls: how often each of the kinds of steps and of calls comes. */
@@ -279,11 +281,29 @@ public final class ModelTest {
         }
     }
 
+    private interface Call {
+        long on(Counted x);
+    }
+
+    private static final class Question {
+        final String what;
+        final Call call;
+        final long want;
+
+        Question(String what, Call call, long want) {
+            this.what = what;
+            this.call = call;
+            this.want = want;
+        }
+    }
+
     private static final class Run {
         final int name;
         final int[] mix;
         final Model model = new Model();
-        final UndoMemory real = new UndoMemory();
+        final Counted real = new Counted();
+        final List<Call> made = new ArrayList<>();
+        final List<Question> questions = new ArrayList<>();
 
         Run(int name) {
             this.name = name;
@@ -293,8 +313,18 @@ public final class ModelTest {
         void due(String what, long got, long want) {
             if (got != want) {
                 wrong++;
-                System.out.println("run " + name + ": " + what + " answered " + got + ", due is " + want);
+                System.out.println("run " + name + ", behind " + made.size() + " calls: " + what
+                    + " answered " + got + ", due is " + want);
             }
+        }
+
+        void make(String what, Call call, long want) {
+            due(what, call.on(real), want);
+            made.add(call);
+        }
+
+        void ask(String what, Call call, long want) {
+            questions.add(new Question(what, call, want));
         }
 
         int kindOfCall() {
@@ -324,78 +354,142 @@ public final class ModelTest {
             return nodes.get(pick(nodes.size()));
         }
 
+        int someRow() {
+            return pick(20) == 0 ? pick(5) - 1 : pick(3);
+        }
+
         int someIndex(int row) {
             int length = row < 0 || row > 2 ? 0 : model.memory().rows.get(row).size();
             return pick(length + 3) - 1;
         }
 
         void call() {
-            int row = pick(20) == 0 ? pick(5) - 1 : pick(3);
-            int a;
-            int b;
-            int c;
-            switch (kindOfCall()) {
-                case 0: a = pick(10) - 1; b = pick(1000); due("set", real.set(a, b), model.set(a, b)); break;
-                case 1: a = pick(6) - 1; b = pick(9) - 4; due("add", real.add(a, b * (1L << 62)), model.add(a, b * (1L << 62))); break;
-                case 2: a = someIndex(row); b = pick(1000); due("insert", real.insert(row, a, b), model.insert(row, a, b)); break;
-                case 3: a = someIndex(row); due("remove", real.remove(row, a), model.remove(row, a)); break;
-                case 4: a = someIndex(row); b = someIndex(row); due("move", real.move(row, a, b), model.move(row, a, b)); break;
-                case 5: a = someNode(); due("node", real.node(a), model.make(6, 0, a, 0, List.of())); break;
-                case 6: a = someNode(); due("unlink", real.unlink(a), model.make(7, a, 0, 0, List.of())); break;
-                case 7: a = someNode(); b = someNode(); due("link", real.link(a, b), model.make(8, a, b, 0, List.of())); break;
-                case 8: a = someStep(); c = pick(2); due("undo", real.undo(a, c == 0), model.undo(a, c == 0)); break;
-                case 9: a = someStep(); due("redo", real.redo(a), model.redo(a)); break;
-                case 10: due("undoLast", real.undoLast(), model.undoLast()); break;
-                case 11: due("redoNext", real.redoNext(), model.redoNext()); break;
-                default: due("squash", real.squash(), model.squash()); break;
+            int kind = kindOfCall();
+            if (kind < 2) {
+                callOnNumbers(kind);
+            } else if (kind < 5) {
+                callOnARow(kind, someRow());
+            } else if (kind < 8) {
+                callOnNodes(kind);
+            } else {
+                callOnSteps(kind);
             }
         }
 
-        void compareAll() {
-            Replay memory = model.memory();
+        void callOnNumbers(int kind) {
+            int at = kind == 0 ? pick(10) - 1 : pick(6) - 1;
+            int v = pick(1000) - 500;
+            long d = (pick(9) - 4) * (1L << 62) + v;
+            if (kind == 0) {
+                make("set", x -> x.set(at, v), model.set(at, v));
+            } else {
+                make("add", x -> x.add(at, d), model.add(at, d));
+            }
+        }
+
+        void callOnARow(int kind, int row) {
+            int at = someIndex(row);
+            int to = someIndex(row);
+            int v = pick(1000);
+            switch (kind) {
+                case 2: make("insert", x -> x.insert(row, at, v), model.insert(row, at, v)); break;
+                case 3: make("remove", x -> x.remove(row, at), model.remove(row, at)); break;
+                default: make("move", x -> x.move(row, at, to), model.move(row, at, to)); break;
+            }
+        }
+
+        void callOnNodes(int kind) {
+            int node = someNode();
+            int parent = someNode();
+            switch (kind) {
+                case 5: make("node", x -> x.node(parent), model.make(6, 0, parent, 0, List.of())); break;
+                case 6: make("unlink", x -> x.unlink(node), model.make(7, node, 0, 0, List.of())); break;
+                default: make("link", x -> x.link(node, parent), model.make(8, node, parent, 0, List.of())); break;
+            }
+        }
+
+        void callOnSteps(int kind) {
+            int step = someStep();
+            boolean along = pick(2) == 0;
+            switch (kind) {
+                case 8: make("undo", x -> x.undo(step, along), model.undo(step, along)); break;
+                case 9: make("redo", x -> x.redo(step), model.redo(step)); break;
+                case 10: make("undoLast", Counted::undoLast, model.undoLast()); break;
+                case 11: make("redoNext", Counted::redoNext, model.redoNext()); break;
+                default: make("squash", Counted::squash, model.squash()); break;
+            }
+        }
+
+        void askForTheMemory(Replay memory) {
             due("impossible steps", 0, memory.impossible.size());
-            due("count 0", real.count(0), model.history.size());
-            due("count 1", real.count(1), model.latest);
-            due("count 2", real.count(2), model.activeOnes().size());
             for (int c = 0; c < 8; c++) {
-                due("cell " + c, real.cell(c), memory.cells[c]);
+                int asked = c;
+                ask("cell " + c, x -> x.cell(asked), memory.cells[c]);
             }
             for (int k = 0; k < 4; k++) {
-                due("counter " + k, real.counter(k), memory.counters[k]);
+                int asked = k;
+                ask("counter " + k, x -> x.counter(asked), memory.counters[k]);
             }
-            for (int row = 0; row < 3; row++) {
+            for (int r = 0; r < 3; r++) {
+                int row = r;
                 List<Integer> line = memory.rows.get(row);
-                due("length", real.length(row), line.size());
-                for (int i = 0; i < line.size(); i++) {
-                    due("element", real.element(row, i), line.get(i));
+                ask("length", x -> x.length(row), line.size());
+                for (int i = 0; i <= line.size(); i++) {
+                    int at = i;
+                    ask("element", x -> x.element(row, at), i < line.size() ? line.get(i) : 0);
                 }
             }
-            for (int i = 0; i <= model.taken.size(); i++) {
-                due("taken", real.taken(i), i < model.taken.size() ? model.taken.get(i) : NONE);
+            for (int n = -1; n <= model.latest + 1; n++) {
+                int node = n;
+                ask("parent", x -> x.parent(node), memory.parents.getOrDefault(node, NONE));
             }
-            compareSteps(memory);
         }
 
-        void compareSteps(Replay memory) {
-            for (int number = -1; number <= model.latest + 1; number++) {
+        void askForTheHistory() {
+            ask("count 0", x -> x.count(0), model.history.size());
+            ask("count 1", x -> x.count(1), model.latest);
+            ask("count 2", x -> x.count(2), model.activeOnes().size());
+            for (int n = -1; n <= model.latest + 1; n++) {
+                int number = n;
                 Step step = model.find(number);
-                due("active", real.active(number), step == null ? NONE : step.active ? 1 : 0);
-                due("value", real.value(number), step == null || step.kind != 3 ? 0 : step.amount);
-                due("parent", real.parent(number), memory.parents.getOrDefault(number, NONE));
+                ask("active", x -> x.active(number), step == null ? NONE : step.active ? 1 : 0);
+                ask("value", x -> x.value(number), step == null || step.kind != 3 ? 0 : step.amount);
             }
             for (int i = 0; i < model.history.size(); i++) {
+                int at = i;
                 Step step = model.history.get(i);
-                due("history 0", real.history(i, 0), step.number);
-                due("history 1", real.history(i, 1), step.kind);
-                due("history 2", real.history(i, 2), step.target);
+                ask("history 0", x -> x.history(at, 0), step.number);
+                ask("history 1", x -> x.history(at, 1), step.kind);
+                ask("history 2", x -> x.history(at, 2), step.target);
             }
         }
 
-        void compareDependence() {
-            for (int i = 0; i < 20; i++) {
+        void askForDependence() {
+            for (int i = 0; i <= model.taken.size(); i++) {
+                int at = i;
+                ask("taken", x -> x.taken(at), i < model.taken.size() ? model.taken.get(i) : NONE);
+            }
+            for (int i = 0; i < 100; i++) {
                 int a = someStep();
                 int b = someStep();
-                due("dependsOn " + a + " " + b, real.dependsOn(a, b) ? 1 : 0, model.dependsOn(a, b));
+                ask("dependsOn " + a + " " + b, x -> x.dependsOn(a, b), model.dependsOn(a, b));
+            }
+        }
+
+        /** Asks as many questions of an object as it has calls left, and the rest of another one like it. */
+        void answer() {
+            int left = 0;
+            Counted x = null;
+            for (Question question : questions) {
+                if (left == 0) {
+                    left = MOST_CALLS - made.size();
+                    x = new Counted();
+                    for (Call call : made) {
+                        call.on(x);
+                    }
+                }
+                due(question.what, question.call.on(x), question.want);
+                left--;
             }
         }
     }
@@ -404,13 +498,14 @@ public final class ModelTest {
         for (int name = 0; name < RUNS && wrong == 0; name++) {
             seed = name;
             Run run = new Run(name);
-            for (int i = 0; i < CALLS && wrong == 0; i++) {
+            int calls = 1 + pick(LONGEST);
+            for (int i = 0; i < calls && wrong == 0; i++) {
                 run.call();
-                if (i % 7 == 0) {
-                    run.compareAll();
-                    run.compareDependence();
-                }
             }
+            run.askForTheMemory(run.model.memory());
+            run.askForTheHistory();
+            run.askForDependence();
+            run.answer();
         }
         System.out.println(wrong == 0 ? "the model agrees" : wrong + " answers are not as due");
         if (wrong != 0) {

@@ -54,7 +54,9 @@ public final class PromiseTest {
         unlinks();
         links();
         fullHistory();
-        deepTree();
+        parentsInADeepTree();
+        takenInADeepTree();
+        redoNextInADeepTree();
         undoes();
         undoAlongInATree();
         redoes();
@@ -397,30 +399,45 @@ public final class PromiseTest {
         due("full: count", x.count(0), 200);
     }
 
-    private static void deepTree() {
+    /** Nodes 1 .. 199, each under the one before it, and 199 under 1 again. */
+    private static UndoMemory deepTree() {
         UndoMemory x = new UndoMemory();
         for (int i = 0; i < 199; i++) {
             due("7: deep", x.node(i), i + 1);
         }
-        for (int i = 1; i < 200; i++) {
-            due("25: deep", x.parent(i), i - 1);
-        }
         due("9: not under the lowest", x.link(1, 199), 0);
         due("9: the lowest under the highest", x.link(199, 1), 200);
+        return x;
+    }
+
+    private static void parentsInADeepTree() {
+        UndoMemory x = deepTree();
+        for (int i = 1; i < 199; i++) {
+            due("25: deep", x.parent(i), i - 1);
+        }
         due("25: parent", x.parent(199), 1);
+        due("13: deep", x.dependsOn(200, 2), true);
+        due("13: not on the number", x.dependsOn(1, 200), false);
+    }
+
+    private static void takenInADeepTree() {
+        UndoMemory x = deepTree();
         due("10: the whole tree", x.undo(1, true), 1);
         for (int i = 0; i < 199; i++) {
             due("12: deep", x.taken(i), i + 2);
         }
         due("12: behind the last", x.taken(199), NONE);
         due("18: none is active", x.count(2), 0);
+    }
+
+    private static void redoNextInADeepTree() {
+        UndoMemory x = deepTree();
+        due("10: the whole tree", x.undo(1, true), 1);
         for (int i = 1; i <= 200; i++) {
             due("15: deep", x.redoNext(), i);
         }
         due("15: no more", x.redoNext(), 0);
         due("25: parent", x.parent(199), 1);
-        due("13: deep", x.dependsOn(200, 2), true);
-        due("13: not on the number", x.dependsOn(1, 200), false);
     }
 
     private static void undoes() {
