@@ -80,8 +80,9 @@ abstract class Boundary {
     }
 
     /**
-     * The call answers as due and nothing happens: all that can be asked is answered as by an
-     * object without that call. It is asked in parts, on new objects, to keep the calls few.
+     * The call answers as due and nothing happens: all questions (of dependsOn, those on the first
+     * steps) are answered as by an object without that call. They are asked in parts, on new
+     * objects, to keep the calls few.
      */
     static void dueNothing(String what, Way way, Call call, long want) {
         for (int part = 0; part < PARTS; part++) {
